@@ -1,0 +1,105 @@
+import java.io.IOException;
+import java.lang.reflect.Constructor;
+import java.lang.reflect.Field;
+import java.lang.reflect.Method;
+import java.lang.reflect.Modifier;
+import java.nio.file.Files;
+import java.nio.file.Path;
+import java.util.Arrays;
+import java.util.HashSet;
+import java.util.Set;
+import java.util.TreeSet;
+import java.util.regex.Matcher;
+import java.util.regex.Pattern;
+
+/** The face is the document's, and the source keeps to those rules of LANGUAGE.md that can be seen from its text. */
+public final class RulesTest {
+    private static final String[] FACE = {
+        "int feed(int, int, int, int, int)", "int end(int)", "int text(int, int)", "int fault(int)",
+        "int office(int, int)", "int doing(int, int, int)", "int deed(int, int, int)", "int till(int, int)",
+        "int state(int, int, int, int)", "int order(int, int, boolean, int)", "long mean(int, int, boolean)",
+        "long spared(int, int, int, int, boolean)", "int rack(int, int, int)", "int settled(int, int)",
+        "int bags(int, int, int, int)", "int sorters(int, boolean)", "int fact(int, int, int)",
+        "int fits(int, int, int)", "int drawn(int, int, int, int)", "int dear(int, int)",
+        "int spoilt(int, int, boolean)", "int calm(int, int, int, boolean)", "long hoped(int, int, boolean)",
+        "int strongest(int, boolean)", "int swapped(int, boolean)", "long strike(int, int, boolean)",
+        "int ruled(int, int)", "int after(int, int, int)", "int then(int, int, int, int)", "int count(int)",
+        "boolean image(int)", "boolean again(int)"};
+    private static final String[] FORBIDDEN = {"throw", "throws", "try", "catch", "finally", "synchronized", "assert",
+        "HashMap", "Random", "System.out", "Exception", "Object", "equals", "hashCode", "toString",
+        "Exact", "->", "::", "native", "volatile", "transient", "package"};
+
+    public static void main(String[] args) throws IOException {
+        face();
+        source(Files.readString(Path.of("src/main/java/SortedOffice.java")));
+        Check.finish();
+    }
+
+    private static void face() {
+        Class<?> c = SortedOffice.class;
+        Check.due("public and final", c.getModifiers(), Modifier.PUBLIC | Modifier.FINAL);
+        Set<String> got = new TreeSet<>();
+        Set<String> names = new HashSet<>();
+        for (Method m : c.getDeclaredMethods()) {
+            if (Modifier.isPublic(m.getModifiers())) {
+                String types = Arrays.stream(m.getParameterTypes()).map(Class::getName).toList().toString();
+                got.add(m.getReturnType() + " " + m.getName() + "(" + types.substring(1, types.length() - 1) + ")");
+                names.add(m.getName());
+            }
+        }
+        Check.due("the face " + got, got.equals(new TreeSet<>(Arrays.asList(FACE))), true);
+        for (Method m : c.getDeclaredMethods()) {
+            boolean fine = Modifier.isPublic(m.getModifiers())
+                || Modifier.isPrivate(m.getModifiers()) && !names.contains(m.getName());
+            Check.due("rule 1: " + m, fine, true);
+        }
+        for (Field f : c.getDeclaredFields()) {
+            boolean face = f.getName().equals("NONE") && Modifier.isPublic(f.getModifiers());
+            Check.due("rule 1: " + f, face || Modifier.isPrivate(f.getModifiers()), true);
+        }
+        Constructor<?>[] made = c.getDeclaredConstructors();
+        Check.due("one constructor", made.length == 1 && made[0].getParameterCount() == 0, true);
+        Check.due("rule 11: classes", c.getDeclaredClasses().length + 1 <= 12, true);
+        for (Class<?> inside : c.getDeclaredClasses()) {
+            inside(inside, names);
+        }
+    }
+
+    private static void inside(Class<?> inside, Set<String> names) {
+        Check.due("rule 2: " + inside, Modifier.isStatic(inside.getModifiers()), true);
+        int fields = 0;
+        for (Field f : inside.getDeclaredFields()) {
+            fields += Modifier.isStatic(f.getModifiers()) ? 0 : 1;
+            Check.due("rule 5: " + f, Modifier.isStatic(f.getModifiers()) && !Modifier.isFinal(f.getModifiers()), false);
+        }
+        Check.due("rule 11: fields of " + inside, fields <= 20, true);
+        for (Method m : inside.getDeclaredMethods()) {
+            Check.due("rule 1: " + m, names.contains(m.getName()), false);
+            Check.due("rule 11: parameters of " + m, m.getParameterCount() <= 7, true);
+        }
+    }
+
+    private static void source(String source) {
+        String code = source.replaceAll("(?s)/\\*.*?\\*/", "").replaceAll("//[^\n]*", "");
+        for (String word : FORBIDDEN) {
+            boolean letters = Character.isLetter(word.charAt(0));
+            Pattern p = Pattern.compile(letters ? "\\b" + Pattern.quote(word) + "\\b" : Pattern.quote(word));
+            Check.due("forbidden: " + word, p.matcher(code).find(), false);
+        }
+        Matcher imports = Pattern.compile("import ([^;]*);").matcher(code);
+        while (imports.find()) {
+            Check.due("rule 4: " + imports.group(), imports.group(1).equals("java.util.Arrays"), true);
+        }
+        String[] lines = source.split("\n");
+        int begin = -1;
+        for (int i = 0; i < lines.length; i++) {
+            if (lines[i].matches(" {4}( {4})?[A-Za-z].*\\) \\{")) {
+                begin = i;
+            } else if (begin >= 0 && lines[i].matches(" {4}( {4})?\\}")) {
+                Check.due("rule 11: the method of line " + begin, i - begin <= 60, true);
+                begin = -1;
+            }
+        }
+        Check.due("signs of the source", source.chars().allMatch(s -> s == 10 || s >= 32 && s < 127), true);
+    }
+}
