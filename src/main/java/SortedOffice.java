@@ -134,7 +134,7 @@ public final class SortedOffice {
             return NOT_SO;
         }
         int mood = orders.moodOf(o, house, NONE, worst);
-        return k == NONE ? mood : orders.letterAt(k, worst);
+        return k == NONE ? mood : orders.letterAt(k);
     }
 
     public long mean(int office, int house, boolean under) {
@@ -1234,6 +1234,9 @@ public final class SortedOffice {
 
     /** BEST and WORST, what is said by them, and how two SORTERS do. */
     private static final class Orders {
+        private static final int AHEADS = KINDS + 1;
+        private static final int NOTHING_CAME = KINDS;
+
         int found;
         int much;
         /** The LETTERS that come, by numbers; a place is a number in this row. */
@@ -1241,65 +1244,62 @@ public final class SortedOffice {
         private final int[] group = new int[MOST_LETTERS];
         private final int[] kinds = new int[MOST_LETTERS];
         /** What the LETTER of a place DOES behind a KIND, or (the last of five) behind nothing. */
-        private final int[] doings = new int[MOST_LETTERS * (KINDS + 1)];
-        /** By the places left (bits) and the KIND that came last: what they can do at best. */
-        private final int[] gains = new int[(1 << MOST_LETTERS) * KINDS];
+        private final int[] doings = new int[MOST_LETTERS * AHEADS];
+        /** By the places left (bits) and what came last: the most that they can do; with none left, always 0. */
+        private final int[] gains = new int[(1 << MOST_LETTERS) * AHEADS];
         private final int[] bests = new int[MOST_HOUSES];
         private final int[] leads = new int[MOST_LETTERS];
         private final Office trial = new Office();
 
         /** BEST or WORST of a HOUSE, if a LETTER (or NONE) never came. */
         int moodOf(Office o, int house, int without, boolean worst) {
-            gather(o, house, without);
-            for (int left = 0; left < 1 << size; left++) {
-                for (int ahead = 0; ahead < KINDS; ahead++) {
-                    gains[KINDS * left + ahead] = gain(left, ahead, worst);
-                }
-            }
-            return o.moods[house] + gain((1 << size) - 1, KINDS, worst);
-        }
-
-        private void gather(Office o, int house, int without) {
+            // WORST is the most that LETTERS can do, if what each DOES is turned round.
+            int sign = worst ? -1 : 1;
             size = 0;
             for (int l = 0; l < o.letters; l++) {
                 if (o.homes[l] == house && l != without) {
-                    group[size] = l;
-                    kinds[size] = o.kinds[l];
-                    for (int ahead = 0; ahead <= KINDS; ahead++) {
-                        int behind = ahead == KINDS ? NONE : ahead;
-                        doings[(KINDS + 1) * size + ahead] = o.does(l, behind);
-                    }
-                    size++;
+                    addToGroup(o, l, sign);
                 }
             }
+            for (int left = 1; left < 1 << size; left++) {
+                fillGains(left);
+            }
+            return o.moods[house] + sign * gains[AHEADS * ((1 << size) - 1) + NOTHING_CAME];
         }
 
-        private int gain(int left, int ahead, boolean worst) {
-            int best = 0;
+        private void addToGroup(Office o, int letter, int sign) {
+            group[size] = letter;
+            kinds[size] = o.kinds[letter];
+            for (int ahead = 0; ahead < AHEADS; ahead++) {
+                int kind = ahead == NOTHING_CAME ? NONE : ahead;
+                doings[AHEADS * size + ahead] = sign * o.does(letter, kind);
+            }
+            size++;
+        }
+
+        private void fillGains(int left) {
+            int row = AHEADS * left;
             boolean any = false;
             for (int i = 0; i < size; i++) {
                 if ((left >> i & 1) == 1) {
-                    int gain = gainBy(i, left, ahead);
-                    if (!any || (worst ? gain < best : gain > best)) {
-                        best = gain;
-                        any = true;
+                    int rest = gains[AHEADS * (left & ~(1 << i)) + kinds[i]];
+                    for (int ahead = 0; ahead < AHEADS; ahead++) {
+                        int gain = doings[AHEADS * i + ahead] + rest;
+                        if (!any || gain > gains[row + ahead]) {
+                            gains[row + ahead] = gain;
+                        }
                     }
+                    any = true;
                 }
             }
-            return best;
-        }
-
-        private int gainBy(int place, int left, int ahead) {
-            int rest = left & ~(1 << place);
-            return doings[(KINDS + 1) * place + ahead] + gains[KINDS * rest + kinds[place]];
         }
 
         /** The k-th LETTER of the first of the orders that moodOf has looked at last. */
-        int letterAt(int k, boolean worst) {
+        int letterAt(int k) {
             int left = (1 << size) - 1;
-            int ahead = KINDS;
+            int ahead = NOTHING_CAME;
             for (int step = 0; step < size; step++) {
-                int place = firstPlace(left, ahead, worst);
+                int place = firstPlace(left, ahead);
                 if (step == k) {
                     return group[place];
                 }
@@ -1309,11 +1309,13 @@ public final class SortedOffice {
             return NOT_SO;
         }
 
-        private int firstPlace(int left, int ahead, boolean worst) {
-            int due = gain(left, ahead, worst);
+        private int firstPlace(int left, int ahead) {
             for (int i = 0; i < size; i++) {
-                if ((left >> i & 1) == 1 && gainBy(i, left, ahead) == due) {
-                    return i;
+                if ((left >> i & 1) == 1) {
+                    int rest = gains[AHEADS * (left & ~(1 << i)) + kinds[i]];
+                    if (doings[AHEADS * i + ahead] + rest == gains[AHEADS * left + ahead]) {
+                        return i;
+                    }
                 }
             }
             return 0;

@@ -20,6 +20,9 @@ public final class ModelTest {
         for (int i = 0; i < 5; i++) {
             t.tryOffice(8);
         }
+        for (int i = 0; i < 12; i++) {
+            t.tryOffice(9 + i % 2);
+        }
         for (int i = 0; i < 60; i++) {
             t.tryRacks();
         }
@@ -149,8 +152,9 @@ public final class ModelTest {
     // ---- what is known of an office
 
     private String officeText(int letters) {
-        int houses = 1 + below(letters > 6 ? 6 : 4);
-        int used = letters > 7 ? 1 + below(2) : houses;
+        int houses = letters > 8 ? 4 + below(3) : 1 + below(letters > 6 ? 6 : 4);
+        // trying all orders is slow: many letters are for many houses, but for some offices of eight
+        int used = letters == 8 ? 1 + below(2) : houses;
         StringBuilder s = new StringBuilder("houses " + houses + ";");
         for (int i = below(4); i > 0; i--) {
             s.append("mood " + below(houses) + " " + below(below(2) == 0 ? 51 : 14) + ";");
