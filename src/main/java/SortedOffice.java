@@ -70,13 +70,14 @@ public final class SortedOffice {
     }
 
     public int text(int sort, int at) {
+        int length = told.length;
+        told.length = 0;
         told.fault = 0;
         told.place = NONE;
         if (!told.mayTake(sort, at)) {
             return NO_SUCH;
         }
-        reader.read(sort, told.tape, told.length);
-        told.length = 0;
+        reader.read(sort, told.tape, length);
         told.fault = reader.fault;
         told.place = reader.place;
         if (told.fault != 0) {

@@ -14,6 +14,7 @@ public final class PromisesTest {
         newObject();
         feedAndEnd();
         text();
+        refusedTexts();
         places();
         faultsOfOffices();
         faultsOfWeeksAndLogs();
@@ -104,10 +105,7 @@ public final class PromisesTest {
             due("in no place", Check.tell(x, sort, -2, ""), -2);
             due("count", x.count(sort), 2);
         }
-        due("no such sort", Check.tell(x, 3, NONE, "night;"), -2);
-        due("no such sort", Check.tell(x, -1, 0, "night;"), -2);
-        Check.due("the tape is not taken", x.end(6) == 6, true);
-        due("taken", x.text(1, 0), 0);
+        due("taken", Check.tell(x, 1, 0, "night;"), 0);
         due("the tape is empty then", x.end(1), NONE);
         due("one deed", x.deed(0, NONE, 0), 1);
         due("a fault", Check.tell(x, 1, 0, "night;give 10;"), NONE);
@@ -128,6 +126,48 @@ public final class PromisesTest {
         due("laws", x.office(0, 2), 0);
         due("mood", x.office(0, 14), 10);
         due("law", x.office(0, 100), NONE);
+    }
+
+    private static void refused(SortedOffice x, String why, int sort, int at) {
+        int offices = x.count(0);
+        int weeks = x.count(1);
+        int logs = x.count(2);
+        due("a fault ahead", Check.tell(x, 1, weeks == 2 ? 0 : NONE, "?"), NONE);
+        Check.put(x, "night; ?");
+        due(why, x.text(sort, at), -2);
+        due(why + ": fault", x.fault(0), 0);
+        due(why + ": place", x.fault(1), NONE);
+        due(why + ": the tape is empty", x.end(1), NONE);
+        due(why + ": the tape has twenty bytes", x.feed(0, 0, 0, 0, 0), 20);
+        due(why + ": offices", x.count(0), offices);
+        due(why + ": weeks", x.count(1), weeks);
+        due(why + ": logs", x.count(2), logs);
+    }
+
+    // Promise 4: where text() answers -2 no text is read, but the tape is taken all the same
+    private static void refusedTexts() {
+        for (int sort = 0; sort < 3; sort++) {
+            SortedOffice x = new SortedOffice();
+            refused(x, "none told yet", sort, 0);
+            due("first", Check.tell(x, sort, NONE, ""), 0);
+            refused(x, "none such of one", sort, 1);
+            refused(x, "far above", sort, Integer.MAX_VALUE);
+            refused(x, "below NONE", sort, -2);
+            refused(x, "far below", sort, Integer.MIN_VALUE);
+            due("second", Check.tell(x, sort, NONE, ""), 1);
+            refused(x, "as many as may be", sort, NONE);
+            refused(x, "none such of two", sort, 2);
+        }
+        SortedOffice y = Check.with("houses 4;");
+        int[] noSorts = {-1, 3, 4, Integer.MIN_VALUE, Integer.MAX_VALUE};
+        for (int sort : noSorts) {
+            refused(y, "no such sort", sort, NONE);
+            refused(y, "no such sort", sort, 0);
+        }
+        due("an empty tape", y.end(0), 0);
+        due("nothing to take", y.text(0, 2), -2);
+        due("an empty tape still", y.end(1), NONE);
+        due("the first stands", y.office(0, 0), 4);
     }
 
     private static void faulty(int sort, String text, int fault, int place) {
