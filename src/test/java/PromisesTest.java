@@ -40,6 +40,7 @@ public final class PromisesTest {
         after();
         then();
         images();
+        wholeImages();
         Check.finish();
     }
 
@@ -777,5 +778,53 @@ public final class PromisesTest {
         due("letters", x.office(0, 1), 6);
         Check.due("again max", x.again(Integer.MAX_VALUE), false);
         Check.due("again min", x.again(Integer.MIN_VALUE), false);
+    }
+
+    // Promise 32, 33: each number of what is told
+    private static void wholeImages() {
+        String[] first = {OFFICE + "minds 0 1 2;mood 1 33;", WEEK, "mood 0 8;mood 2 77;"};
+        String[] second = {"houses 1;mood 0 3;letter 0 blow 9;law nothing joy 7;", "night;slip 1 2;", "mood 5 1;"};
+        SortedOffice x = new SortedOffice();
+        for (int sort = 0; sort < 3; sort++) {
+            due("one", Check.tell(x, sort, NONE, first[sort]), 0);
+            due("other", Check.tell(x, sort, NONE, second[sort]), 1);
+        }
+        Check.due("image", x.image(1), true);
+        String before = allTold(first, second);
+        for (int sort = 0; sort < 3; sort++) {
+            due("the other way round", Check.tell(x, sort, 0, second[sort]), 0);
+            due("the other way round", Check.tell(x, sort, 1, first[sort]), 1);
+        }
+        Check.due("changed", allTold(x).equals(allTold(second, first)), true);
+        Check.due("again", x.again(1), true);
+        Check.due("as it was", allTold(x).equals(before), true);
+    }
+
+    private static String allTold(String[] first, String[] second) {
+        SortedOffice x = new SortedOffice();
+        for (int sort = 0; sort < 3; sort++) {
+            due("one", Check.tell(x, sort, NONE, first[sort]), 0);
+            due("other", Check.tell(x, sort, NONE, second[sort]), 1);
+        }
+        return allTold(x);
+    }
+
+    private static String allTold(SortedOffice x) {
+        StringBuilder s = new StringBuilder();
+        for (int at = 0; at < 2; at++) {
+            for (int what = 0; what < 70; what++) {
+                s.append(what % 10 < 6 ? x.office(at, what) : 0).append(' ');
+            }
+            for (int what = 100; what < 116; what++) {
+                s.append(x.office(at, what)).append(' ');
+            }
+            for (int k = 0; k < 9; k++) {
+                s.append(x.deed(at, k, 0)).append(x.deed(at, k, 1)).append(x.deed(at, k, 2)).append(' ');
+            }
+            for (int k = 0; k < 3; k++) {
+                s.append(x.fact(at, k, 0)).append(x.fact(at, k, 1)).append(' ');
+            }
+        }
+        return s.toString();
     }
 }
