@@ -5,7 +5,7 @@ import java.util.TreeMap;
 /** Offices, weeks, logs made by chance (always the same ones): each answer against the model's. */
 public final class ModelTest {
     private static final String[] WORDS = {"houses", "mood", "letter", "law", "minds", "give", "slip", "burn",
-        "night", "joy", "blow", "money", "nothing", ";", "7", "10", "100", "05", "x", "joyx", "A", "-", "\t"};
+        "night", "joy", "blow", "money", "nothing", ";", "7", "10", "100", "05", "x", "joyx", "z", "{", "`", "/", ":", "A", "-", "\t"};
 
     private final Random random = new Random(20261118);
 

@@ -201,6 +201,17 @@ public final class PromisesTest {
         faulty(0, "houses 3;;", 1, 9);
         faulty(0, "houses 9;letter 0 1;", 1, 18);
         faulty(0, "letter 0 joys 1;", 1, 9);
+        faulty(0, "letter 0 joyz 1;", 1, 9);
+        faulty(0, "letter 0 joya 1;", 1, 9);
+        faulty(0, "letter 0 joy{1;", 1, 12);
+        faulty(0, "letter 0 joy`1;", 1, 12);
+        faulty(0, "letter 0/joy 1;", 1, 8);
+        faulty(0, "letter 0:joy 1;", 1, 8);
+        faulty(0, "letter 0 joy 1:", 1, 14);
+        faulty(0, "letter 0 joy 1<", 1, 14);
+        faulty(0, "letter\r0 joy 1;", 1, 6);
+        faulty(0, "letter\u00a00 joy 1;", 1, 6);
+        faulty(0, "letter\u00b0 joy 1;", 1, 6);
         faulty(0, "letter joy 0 1;", 1, 7);
         faulty(0, "law joy 1;", 1, 8);
         faulty(0, "minds 0 1;", 1, 9);
