@@ -32,6 +32,7 @@ public final class PromisesTest {
         sorters();
         fact();
         fits();
+        shorterBehindLonger();
         drawn();
         dearSpoiltCalm();
         hopedAndStrike();
@@ -579,6 +580,31 @@ public final class PromisesTest {
         // one letter, three houses: HOUSE 1 parts 2 from 1, and so does HOUSE 2; HOUSE 0 parts 1 from 2
         tryFits("letter 0 joy 1;", "", new int[] {3, NONE, NONE, 0, 10, 20, 99});
         tryFits("letter 0 joy 1;", "mood 0 10;", new int[] {2, 0, NONE, 1, 10, 20});
+    }
+
+    // Promise 4, 8, 9, 18, 19, 30: as many as may be, and nothing is left of a longer text that was told ahead
+    private static void shorterBehindLonger() {
+        String joys = "houses 2;letter 0 joy 1;letter 0 joy 1;";
+        String eight = "mood 0 11;mood 1 11;".repeat(4);
+        tryFits(joys, eight, new int[] {2, NONE, 1, 0, 10, 11});
+        tryFits(joys, eight.substring(10) + "mood 5 1;", new int[] {-2, -2, -2, -2});
+        SortedOffice x = Check.with(joys, Check.LOG, "mood 0 11;" + "mood 5 1;".repeat(7));
+        due("a house that is not there", x.fits(0, 0, 0), -2);
+        due("then of it", x.then(0, 0, 0, 0), -1000);
+        due("a shorter log", Check.tell(x, Check.LOG, 0, "mood 0 11;"), 0);
+        due("facts", x.fact(0, NONE, 0), 1);
+        due("fact behind the last", x.fact(0, 1, 0), -2);
+        due("fits", x.fits(0, 0, 0), 2);
+        due("then", x.then(0, 0, 1, 1), 11);
+        due("a long week", Check.tell(x, Check.WEEK, NONE, "night;".repeat(40)), 0);
+        due("till", x.till(0, 0), 40);
+        due("nights", x.state(0, 0, 40, 0), 40);
+        due("a shorter week", Check.tell(x, Check.WEEK, 0, "give 1;night;"), 0);
+        due("deeds", x.deed(0, NONE, 0), 2);
+        due("deed behind the last", x.deed(0, 2, 0), -2);
+        due("till", x.till(0, 0), 2);
+        due("nights", x.state(0, 0, 2, 0), 1);
+        due("no such state", x.state(0, 0, 3, 0), -1000);
     }
 
     private static void tryFits(String office, String log, int[] dues) {
