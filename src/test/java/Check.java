@@ -6,6 +6,9 @@ final class Check {
 
     private static int wrong = 0;
     private static int looked = 0;
+    private static String sentence = "";
+    private static int sentences = 0;
+    private static int lookedBefore = 0;
 
     private Check() {
     }
@@ -15,7 +18,7 @@ final class Check {
         if (got != want) {
             wrong++;
             if (wrong <= 200) {
-                System.out.println(call + " answered " + got + ", due is " + want);
+                System.out.println(sentence + call + " answered " + got + ", due is " + want);
             }
         }
     }
@@ -24,7 +27,22 @@ final class Check {
         due(call, got ? 1 : 0, want ? 1 : 0);
     }
 
-    /** Puts a text on the tape, behind what is there: the last twenty bytes are filled up, then cut. */
+    /** The next answers are of this sentence of the document: where it stands, and its words. */
+    static void sentence(String where, String words) {
+        endSentence();
+        sentences++;
+        sentence = where + ", \"" + words + "\": ";
+    }
+
+    /** A sentence of which nothing was asked has no test. */
+    private static void endSentence() {
+        if (sentences > 0 && looked == lookedBefore) {
+            due("answers", 0, 1);
+        }
+        lookedBefore = looked;
+    }
+
+    /** Puts a text on the tape in the place of what is there: the last twenty bytes are filled up, then cut. */
     static void put(SortedOffice x, String text) {
         int before = x.end(0) == 0 ? 0 : -1;
         int[] five = new int[5];
@@ -57,7 +75,24 @@ final class Check {
         return x;
     }
 
+    /** A text alone: its FAULT and place (0 and NONE without). */
+    static void faulty(int sort, String text, int fault, int place) {
+        SortedOffice x = new SortedOffice();
+        due("text " + text, tell(x, sort, SortedOffice.NONE, text), fault == 0 ? 0 : SortedOffice.NONE);
+        due("fault of " + text, x.fault(0), fault);
+        due("place in " + text, x.fault(1), place);
+        due("count behind " + text, x.count(sort), fault == 0 ? 1 : 0);
+    }
+
+    static void fine(int sort, String text) {
+        faulty(sort, text, 0, SortedOffice.NONE);
+    }
+
     static void finish() {
+        endSentence();
+        if (sentences > 0) {
+            System.out.print(sentences + " sentences, ");
+        }
         System.out.println(looked + " answers, " + wrong + " of them wrong");
         if (wrong != 0 || looked == 0) {
             System.exit(1);

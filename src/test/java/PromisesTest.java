@@ -173,11 +173,7 @@ public final class PromisesTest {
     }
 
     private static void faulty(int sort, String text, int fault, int place) {
-        SortedOffice x = new SortedOffice();
-        due("text " + text, Check.tell(x, sort, NONE, text), fault == 0 ? 0 : NONE);
-        due("fault of " + text, x.fault(0), fault);
-        due("place in " + text, x.fault(1), place);
-        due("count behind " + text, x.count(sort), fault == 0 ? 1 : 0);
+        Check.faulty(sort, text, fault, place);
     }
 
     // Promise 4, 5: tokens and fault 1

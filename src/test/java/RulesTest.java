@@ -25,7 +25,13 @@ public final class RulesTest {
         "int strongest(int, boolean)", "int swapped(int, boolean)", "long strike(int, int, boolean)",
         "int ruled(int, int)", "int after(int, int, int)", "int then(int, int, int, int)", "int count(int)",
         "boolean image(int)", "boolean again(int)"};
-    private static final String[] FORBIDDEN = {"throw", "throws", "try", "catch", "finally", "synchronized", "assert",
+    /** What may be called by a class of the library. */
+    private static final String LIBRARY = "Arrays\\.(fill|copyOf|copyOfRange)|System\\.arraycopy|List\\.of"
+        + "|(Math|Integer|Long)\\.[A-Za-z]+(?<!Exact)";
+    /** The one object that is made behind the constructors: at most one for each image. */
+    private static final String MADE_LATER = "images[k] = new Told();";
+    private static final String[] FORBIDDEN = {"while (true)", "for (;;)", "static {",
+        "throw", "throws", "try", "catch", "finally", "synchronized", "assert",
         "HashMap", "Random", "System.out", "Exception", "Object", "equals", "hashCode", "toString",
         "Exact", "->", "::", "native", "volatile", "transient", "package"};
 
@@ -53,6 +59,7 @@ public final class RulesTest {
                 || Modifier.isPrivate(m.getModifiers()) && !names.contains(m.getName());
             Check.due("rule 1: " + m, fine, true);
         }
+        fields(c);
         for (Field f : c.getDeclaredFields()) {
             boolean face = f.getName().equals("NONE") && Modifier.isPublic(f.getModifiers());
             Check.due("rule 1: " + f, face || Modifier.isPrivate(f.getModifiers()), true);
@@ -67,25 +74,58 @@ public final class RulesTest {
 
     private static void inside(Class<?> inside, Set<String> names) {
         Check.due("rule 2: " + inside, Modifier.isStatic(inside.getModifiers()), true);
-        int fields = 0;
-        for (Field f : inside.getDeclaredFields()) {
-            fields += Modifier.isStatic(f.getModifiers()) ? 0 : 1;
-            Check.due("rule 5: " + f, Modifier.isStatic(f.getModifiers()) && !Modifier.isFinal(f.getModifiers()), false);
-        }
-        Check.due("rule 11: fields of " + inside, fields <= 20, true);
+        Check.due("rule 1: " + inside, Modifier.isPublic(inside.getModifiers()), false);
+        Check.due("rule 1: " + inside, Modifier.isProtected(inside.getModifiers()), false);
+        fields(inside);
         for (Method m : inside.getDeclaredMethods()) {
             Check.due("rule 1: " + m, names.contains(m.getName()), false);
             Check.due("rule 11: parameters of " + m, m.getParameterCount() <= 7, true);
         }
     }
 
+    private static void fields(Class<?> of) {
+        int fields = 0;
+        for (Field f : of.getDeclaredFields()) {
+            Class<?> type = f.getType();
+            Class<?> of1 = type.isArray() ? type.getComponentType() : type;
+            if (Modifier.isStatic(f.getModifiers())) {
+                Check.due("rule 5: " + f, Modifier.isFinal(f.getModifiers()), true);
+                Check.due("rule 5: " + f, of1.isPrimitive() || of1 == String.class, true);
+            } else {
+                fields++;
+                boolean own = of1.getName().startsWith("SortedOffice$");
+                boolean list = of1 == java.util.ArrayList.class || of1 == java.util.List.class;
+                boolean text = of1 == String.class || of1 == StringBuilder.class;
+                Check.due("rule 3: " + f, own || list || text || of1.isPrimitive() || of1 == int[].class, true);
+            }
+        }
+        Check.due("rule 11: fields of " + of, fields <= 20, true);
+    }
+
+    private static void library(String code) {
+        Matcher calls = Pattern.compile("\\b([A-Z][A-Za-z]*\\.[A-Za-z]+)\\(").matcher(code);
+        while (calls.find()) {
+            Check.due("rule 4: " + calls.group(1), calls.group(1).matches(LIBRARY), true);
+        }
+        for (String line : code.split("\n")) {
+            if (line.contains("new ")) {
+                boolean field = line.matches(" {4}( {4})?(private )?final .*;");
+                Check.due("rule 12: " + line, field || line.trim().equals(MADE_LATER), true);
+            }
+            // texts are never joined
+            Check.due("rule 10: " + line, line.matches(".*(\" *\\+|\\+ *\").*"), false);
+        }
+    }
+
     private static void source(String source) {
         String code = source.replaceAll("(?s)/\\*.*?\\*/", "").replaceAll("//[^\n]*", "");
         for (String word : FORBIDDEN) {
-            boolean letters = Character.isLetter(word.charAt(0));
-            Pattern p = Pattern.compile(letters ? "\\b" + Pattern.quote(word) + "\\b" : Pattern.quote(word));
+            String begin = Character.isLetter(word.charAt(0)) ? "\\b" : "";
+            String end = Character.isLetter(word.charAt(word.length() - 1)) ? "\\b" : "";
+            Pattern p = Pattern.compile(begin + Pattern.quote(word) + end);
             Check.due("forbidden: " + word, p.matcher(code).find(), false);
         }
+        library(code);
         Matcher imports = Pattern.compile("import ([^;]*);").matcher(code);
         while (imports.find()) {
             Check.due("rule 4: " + imports.group(), imports.group(1).equals("java.util.Arrays"), true);
