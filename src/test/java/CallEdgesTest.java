@@ -366,6 +366,9 @@ public final class CallEdgesTest {
         due("settled, without letters", x.settled(1, 0), 0);
         due("again, without letters", x.settled(1, 1), 1);
         due("blind, without letters", x.settled(1, 2), 0);
+        due("blind, with them again", x.settled(0, 2), 513);
+        due("blind, without them again", x.settled(1, 2), 0);
+        due("loose, without letters", x.ruled(1, 2), 0);
         promise(15, "-2: there is none such, or for another what.");
         numbers("office", Check.OFFICE, -2, n -> x.settled(n, 0));
         numbers("office", Check.OFFICE, -2, n -> x.settled(n, 2));
@@ -439,6 +442,15 @@ public final class CallEdgesTest {
         between("what, k NONE", 0, 0, -2, n -> x.fact(0, NONE, n));
     }
 
+    /** One FACT of eight is of a HOUSE, the others are of the first. */
+    private static void houseOfFact(int houses, int house, int at) {
+        String log = "mood 0 10;".repeat(at) + "mood " + house + " 10;" + "mood 0 10;".repeat(7 - at);
+        SortedOffice y = Check.with("houses " + houses + ";", Check.LOG, log);
+        for (int what : new int[] {0, 1, 2, 3, 10}) {
+            Check.due("house " + house + " of " + houses + ", " + what, y.fits(0, 0, what) == -2, house >= houses);
+        }
+    }
+
     private static void fits() {
         promise(19, "-2: there is none such (of any)");
         numbers("office", Check.OFFICE, -2, n -> x.fits(n, 0, 0));
@@ -453,9 +465,8 @@ public final class CallEdgesTest {
         promise(19, "-2: a HOUSE that was told of is not there");
         for (int houses = 1; houses <= 6; houses++) {
             for (int h = 0; h < 6; h++) {
-                SortedOffice y = Check.with("houses " + houses + ";", Check.LOG, "mood 0 10;mood " + h + " 10;mood 0 10;");
-                for (int what : new int[] {0, 1, 2, 3, 10}) {
-                    Check.due("house " + h + " of " + houses + ", " + what, y.fits(0, 0, what) == -2, h >= houses);
+                for (int at = 0; at < 8; at++) {
+                    houseOfFact(houses, h, at);
                 }
             }
         }
@@ -652,6 +663,11 @@ public final class CallEdgesTest {
         int[] others = {0, -1, 2, 2};
         for (int what = 0; what < 4; what++) {
             due("after " + what, x.after(0, 0, what), others[what]);
+        }
+        due("a week without deeds", Check.tell(x, Check.WEEK, NONE, ""), 1);
+        for (int what = 0; what < 4; what++) {
+            due("after " + what + ", no deeds", x.after(0, 1, what), 0);
+            due("after " + what + ", once more", x.after(0, 0, what), others[what]);
         }
     }
 

@@ -324,6 +324,14 @@ public final class TermEdgesTest {
                 due("who minds nobody stays", x.rack(0, 1, 999), kind);
             }
         }
+        for (int kind = 0; kind < 4; kind++) {
+            SortedOffice x = Check.with(("letter 0 " + KINDS[kind] + " 1;").repeat(10) + "minds 9 0 1;minds 8 9 3;");
+            due("at first", x.rack(0, 0, 0), kind);
+            due("at first", x.rack(0, 9, 0), kind);
+            due("behind a round", x.rack(0, 9, 1), (kind + 1) % 4);
+            due("behind a round", x.rack(0, 8, 1), (kind + 3) % 4);
+            due("behind two", x.rack(0, 8, 2), kind);
+        }
         edge(3, "(as it was ahead of the round), all at once");
         SortedOffice x = Check.with("letter 0 joy 1;letter 0 blow 1;letter 0 money 1;minds 0 1 0;minds 1 2 0;minds 2 0 0;");
         int[][] rows = {{0, 1, 2}, {1, 2, 0}, {2, 0, 1}, {0, 1, 2}};
@@ -415,6 +423,7 @@ public final class TermEdgesTest {
 
         edge(3, "the fewest days; the first row of days by LETTERS, by numbers (from 0 on)");
         bags("letter 0 joy 3;letter 0 joy 3;letter 0 joy 6;letter 0 joy 6;", 9, 10, 2, 0, 1, 0, 1);
+        bags("letter 0 joy 3;letter 0 joy 3;letter 0 joy 6;letter 0 joy 6;", 9, 2, 2, 0, 1, 0, 1);
         bags("letter 0 joy 2;letter 0 joy 2;letter 0 joy 4;", 4, 10, 2, 0, 0, 1);
         bags("letter 0 joy 5;letter 0 joy 4;letter 0 joy 1;letter 0 joy 2;", 6, 10, 2, 0, 1, 0, 1);
     }
@@ -490,6 +499,11 @@ public final class TermEdgesTest {
         sure("letter 0 joy 1;", "mood 0 10;", 0, NONE);
         sure("houses 2;letter 0 joy 1;letter 0 joy 1;", "mood 1 11;", NONE, 1);
         sure("letter 0 joy 1;letter 0 joy 1;", "mood 0 11;", NONE, NONE);
+        String nine = "houses 6;" + "letter 0 nothing 1;".repeat(9);
+        sure(nine + "letter 0 joy 1;", "mood 5 11;", 9, 5);
+        sure(nine + "letter 0 joy 1;", "mood 0 10;", 9, NONE);
+        sure("houses 6;" + "letter 0 nothing 1;".repeat(8) + "letter 0 joy 1;letter 0 joy 1;", "mood 5 11;", NONE, 5);
+        sure("houses 6;" + "letter 0 nothing 1;".repeat(8) + "letter 0 joy 1;letter 0 joy 2;", "mood 4 11;", 8, 4);
         // a NOTHING that slips is like none
         sure("houses 2;letter 0 nothing 1;", "", NONE, NONE);
     }
@@ -532,6 +546,15 @@ public final class TermEdgesTest {
 
     private static void drawn() {
         int[] seeds = {0, 1, -1, 7, 65535, 65536, 123456789, Integer.MAX_VALUE, Integer.MIN_VALUE, -123456789};
+        edge(5, "x becomes x * 1103515245 + 12345 (of 32 bits), it is x shifted right by 16 without sign, remainder by n");
+        for (int seed : seeds) {
+            Seed s = new Seed(seed);
+            int deed = s.below(8);
+            SortedOffice one = Check.with("houses 1;letter 0 joy 1;");
+            due("the first by " + seed, one.drawn(0, seed, 1, 0), deed == 7 ? 1 : 0);
+            due("the first by " + seed, one.drawn(0, seed, 1, 30), deed < 4 ? 1 : 0);
+            due("the first by " + seed, one.drawn(0, seed, 1, 1), deed < 4 || deed == 6 ? 0 : 1);
+        }
         edge(5, "(Without LETTERS 0 to 6 draw no more, nothing is done.)");
         for (int seed : seeds) {
             SortedOffice none = Check.with("houses 1;mood 0 50;");
@@ -541,6 +564,9 @@ public final class TermEdgesTest {
                 due("nights by " + seed + ", " + n, none.drawn(0, seed, n, 0), nights);
                 due("mood by " + seed + ", " + n, none.drawn(0, seed, n, 10), Math.max(10, 50 - nights));
                 nights += s.below(8) == 7 ? 1 : 0;
+            }
+            for (int what : new int[] {1, 2, 3, 30}) {
+                due("nothing is done by " + seed + ", " + what, none.drawn(0, seed, 60, what), 0);
             }
         }
         edge(5, "a number below 8: 0 to 3: give, a LETTER, below LETTERS; 4, 5: slip, a LETTER, a HOUSE, below HOUSES; "
@@ -674,6 +700,7 @@ public final class TermEdgesTest {
         strongest("letter 0 joy 1;letter 0 joy 1;law joy joy 1;", 100, 0);
         strongest("letter 0 blow 1;letter 0 blow 1;letter 1 joy 1;letter 1 joy 1;law blow blow 3;law joy joy 3;", 100, 2);
         strongest("letter 0 blow 1;letter 0 blow 1;letter 1 joy 1;letter 1 joy 1;law blow blow 4;law joy joy 3;", 105, 3);
+        strongest("letter 0 blow 1;letter 0 blow 1;letter 1 joy 1;letter 1 joy 1;law blow blow 3;law joy joy 4;", 100, 3);
     }
 
     private static void swapped(String office, int couple, int much) {
@@ -692,6 +719,9 @@ public final class TermEdgesTest {
         String four = "houses 2;letter 0 joy 1;letter 0 nothing 1;letter 1 nothing 1;letter 1 joy 1;law joy joy 9;";
         swapped(four, 2, 30);
         swapped("houses 2;letter 0 nothing 1;letter 0 joy 1;letter 1 joy 1;letter 1 nothing 1;law joy joy 9;", 2, 30);
+        swapped("houses 2;letter 0 joy 1;letter 0 nothing 1;letter 1 joy 1;law joy joy 9;", 12, 30);
+        swapped("letter 2 blow 1;".repeat(7) + "letter 0 nothing 1;letter 0 blow 1;letter 1 joy 1;law nothing joy 9;",
+            89, 31);
         String last = "houses 2;" + "letter 0 nothing 1;".repeat(8) + "letter 0 joy 1;letter 1 blow 1;law blow joy 0;"
             + "law nothing joy 0;";
         swapped(last, NONE, 20);
@@ -721,6 +751,11 @@ public final class TermEdgesTest {
         strike("houses 3;letter 0 joy 1;letter 0 blow 1;", 2, 1, 3);
         strike("houses 6;letter 0 joy 1;letter 0 blow 1;", 1, 1, 6);
         strike("houses 2;letter 0 joy 1;letter 0 joy 1;letter 0 blow 2;", 3, 1, 4);
+        String three = "houses 2;letter 0 joy 2;letter 0 blow 1;letter 0 blow 1;";
+        strike(three, 0, 1, 1);
+        strike(three, 1, 1, 2);
+        strike(three, 2, 1, 4);
+        strike(three, 3, 1, 4);
         // of ten sets one has the joy, one the blow: each of them is fine by one HOUSE of two
         strike("houses 2;" + "letter 1 nothing 1;".repeat(8) + "letter 0 joy 1;letter 0 blow 1;", 1, 9, 10);
         edge(6, "all LETTERS come by numbers");
@@ -734,6 +769,7 @@ public final class TermEdgesTest {
         due("one letter", Check.with("letter 0 joy 1;law joy joy 1;").ruled(0, 0), 0);
         due("a law of TIMES 0", Check.with("letter 0 joy 1;letter 0 joy 1;law joy joy 0;").ruled(0, 0), 1);
         due("two houses", Check.with("letter 0 joy 1;letter 1 joy 1;law joy joy 1;").ruled(0, 0), 0);
+        due("two houses", Check.with("letter 1 joy 1;letter 0 joy 1;law joy joy 1;").ruled(0, 0), 0);
         due("behind it", Check.with("letter 0 joy 1;letter 0 blow 1;law joy blow 1;").ruled(0, 0), 1);
         due("ahead of it", Check.with("letter 0 joy 1;letter 0 blow 1;law blow joy 1;").ruled(0, 0), 0);
         due("all couples", Check.with("letter 2 joy 1;".repeat(10) + "law joy joy 1;").ruled(0, 0), 45);
@@ -796,6 +832,8 @@ public final class TermEdgesTest {
     private static void grieved() {
         edge(6, "GRIEVED: the HOUSE whose MOOD was lowest in any STATE, of several the least (at that MOOD); how low");
         after("", "", 0, 10);
+        after("houses 1;mood 0 50;", "", 0, 50);
+        after("mood 1 9;", "", 1, 9);
         after("mood 2 9;", "", 2, 9);
         after("mood 2 9;", "night;night;", 2, 9);
         after("houses 6;mood 5 0;", "night;".repeat(40), 5, 0);

@@ -1,3 +1,6 @@
+import java.util.ArrayList;
+import java.util.List;
+
 /** Term 1, and promises 2 to 5: each sentence that names an edge of the tape, of a text, of a FAULT. */
 public final class TextEdgesTest {
     private static final int NONE = SortedOffice.NONE;
@@ -118,6 +121,18 @@ public final class TextEdgesTest {
         due("houses", x.office(0, 0), 5);
     }
 
+    /** A text cut to its first n bytes is read like these bytes alone. */
+    private static void cutTo(int sort, String text, int n) {
+        SortedOffice x = new SortedOffice();
+        Check.put(x, text);
+        due("end", x.end(n), n);
+        SortedOffice alone = new SortedOffice();
+        int want = Check.tell(alone, sort, NONE, text.substring(0, n));
+        due(text + " cut to " + n, x.text(sort, NONE), want);
+        due("fault of " + text + " cut to " + n, x.fault(0), alone.fault(0));
+        due("place in " + text + " cut to " + n, x.fault(1), alone.fault(1));
+    }
+
     private static void cut() {
         promise(3, "The tape has its first n bytes alone: n.");
         SortedOffice x = new SortedOffice();
@@ -133,6 +148,14 @@ public final class TextEdgesTest {
         due("the first bytes alone", x.text(OFFICE, NONE), 0);
         due("houses", x.office(0, 0), 5);
 
+        promise(3, "its first n bytes alone: what was cut is not read");
+        String[] texts = {"houses 06;letter 5 nothing 9;law joy blow 0;mood 00 12;", "night;give 01;slip 03 2;nights;",
+            "mood 05 99;mood 10 10;"};
+        for (int sort = 0; sort < 3; sort++) {
+            for (int n = 0; n <= texts[sort].length(); n++) {
+                cutTo(sort, texts[sort], n);
+            }
+        }
         promise(3, "NONE if it has not so many, or n is below 0.");
         due("of an empty tape", x.end(1), NONE);
         due("feed", feedBlanks(x), 20);
@@ -167,6 +190,25 @@ public final class TextEdgesTest {
             due("empty", x.end(1), NONE);
             due("an empty tape is an empty text", x.text(sort, 0), 0);
         }
+        promise(4, "in the place of one: nothing of it is left");
+        SortedOffice z = Check.with("houses 6;mood 5 1;mood 0 2;" + TEN + EIGHT + "minds 9 0 1;minds 0 1 3;", WEEK,
+            "slip 9 5;".repeat(40));
+        due("a full log", Check.tell(z, LOG, NONE, "mood 5 99;".repeat(8)), 0);
+        for (int sort = 0; sort < 3; sort++) {
+            due("an empty text", Check.tell(z, sort, 0, ""), 0);
+        }
+        SortedOffice empty = Check.with("");
+        for (int what = 0; what < 120; what++) {
+            due("office " + what, z.office(0, what), empty.office(0, what));
+        }
+        due("no deeds", z.deed(0, NONE, 0), 0);
+        due("no deed", z.deed(0, 0, 0), -2);
+        due("no facts", z.fact(0, NONE, 0), 0);
+        due("no fact", z.fact(0, 0, 0), -2);
+        due("letters anew", Check.tell(z, OFFICE, 0, TEN), 0);
+        due("which mind nobody", z.office(0, 50), NONE);
+        due("by no shift", z.office(0, 69), NONE);
+
         promise(4, "NONE: a FAULT.");
         SortedOffice x = Check.with("houses 5;letter 4 joy 1;law joy joy 3;mood 1 2;");
         String[] faulty = {"houses 1;?", "houses 1;mood 0 51;", TEN + "letter 0 joy 1;", "houses 1;mood 1 1;"};
@@ -471,6 +513,21 @@ public final class TextEdgesTest {
                 tryLine(sort, ahead, line.split(" "));
             }
         }
+        edge("words: each letter of each of them");
+        for (int sort = 0; sort < 3; sort++) {
+            for (String line : LINES[sort]) {
+                String word = line.substring(0, line.indexOf(' '));
+                for (String other : misspelt(word)) {
+                    Check.faulty(sort, other + line.substring(word.length()), 1, 0);
+                }
+            }
+        }
+        for (String kind : new String[] {"joy", "blow", "money", "nothing"}) {
+            for (String other : misspelt(kind)) {
+                Check.faulty(OFFICE, "letter 0 " + other + " 1;", 1, 9);
+                Check.faulty(OFFICE, "law joy " + other + " 1;", 1, 8);
+            }
+        }
         edge("KIND: 'joy' | 'blow' | 'money' | 'nothing'");
         for (String kind : new String[] {"joy", "blow", "money", "nothing"}) {
             Check.fine(OFFICE, "letter 0 " + kind + " 1;law " + kind + " " + kind + " 1;");
@@ -478,6 +535,19 @@ public final class TextEdgesTest {
             Check.faulty(OFFICE, "letter 0 " + kind.substring(1) + " 1;", 1, 9);
             Check.faulty(OFFICE, "letter 0 " + kind.substring(0, kind.length() - 1) + " 1;", 1, 9);
         }
+    }
+
+    /** A word with one of its letters changed, left out or put in twice. */
+    private static List<String> misspelt(String word) {
+        List<String> all = new ArrayList<>();
+        for (int i = 0; i < word.length(); i++) {
+            String begin = word.substring(0, i);
+            String end = word.substring(i + 1);
+            all.add(begin + (word.charAt(i) == 'q' ? 'r' : 'q') + end);
+            all.add(begin + end);
+            all.add(begin + word.charAt(i) + word.charAt(i) + end);
+        }
+        return all;
     }
 
     /** Each token left out with all behind it, and each in the place of each other: FAULT 1 there. */

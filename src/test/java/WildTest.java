@@ -3,6 +3,7 @@ import java.lang.reflect.Method;
 import java.util.Arrays;
 import java.util.Comparator;
 import java.util.Random;
+import java.util.Set;
 
 /** Calls of all kinds with wild arguments, in all kinds of states: none throws, and asking changes nothing. */
 public final class WildTest {
@@ -16,6 +17,8 @@ public final class WildTest {
             + "minds 0 1 1;minds 1 2 0;minds 2 0 3;minds 3 4 2;minds 4 3 0;minds 9 8 1;",
         "", "houses 1;letter 0 joy 1;", "mood 0 8;mood 5 9;", "mood 0 0;", "night;night;give 0;slip 1 5;burn 2;give 9;",
         "give 0;give 0;", "rubbish", "houses 9;", "mood 5 5;"};
+
+    private static final Set<String> CHANGES = Set.of("feed", "end", "text", "image", "again");
 
     public static void main(String[] args) throws IllegalAccessException {
         Method[] face = Arrays.stream(SortedOffice.class.getDeclaredMethods())
@@ -33,6 +36,7 @@ public final class WildTest {
             }
         }
         askingChangesNothing(face, random);
+        askingInTurn(face, random);
         Check.finish();
     }
 
@@ -65,13 +69,62 @@ public final class WildTest {
         Check.put(x, "night;");
         int[] before = print(x);
         for (Method m : face) {
-            boolean changes = Arrays.asList("feed", "end", "text", "image", "again").contains(m.getName());
+            boolean changes = CHANGES.contains(m.getName());
             for (int i = 0; i < 40 && !changes; i++) {
                 tryCall(x, m, random);
             }
             Check.due("asked " + m.getName(), Arrays.equals(before, print(x)), true);
         }
         Check.due("the tape", x.end(7) == -1 && x.end(6) == 6 && x.text(1, 0) == 0, true);
+    }
+
+    /** What was asked ahead leaves nothing behind: an object that was asked a lot answers like a new one. */
+    private static void askingInTurn(Method[] face, Random random) throws IllegalAccessException {
+        for (int run = 0; run < 100; run++) {
+            Method[] ahead = new Method[100];
+            Object[][] arguments = new Object[100][];
+            for (int i = 0; i < 100; i++) {
+                do {
+                    ahead[i] = face[random.nextInt(face.length)];
+                } while (CHANGES.contains(ahead[i].getName()));
+                arguments[i] = near(ahead[i], random);
+            }
+            SortedOffice asked = twoOfEach();
+            for (int i = 0; i < 100; i++) {
+                Object got = answer(asked, ahead[i], arguments[i]);
+                Object want = answer(twoOfEach(), ahead[i], arguments[i]);
+                Check.due(ahead[i].getName() + Arrays.toString(arguments[i]) + " answered " + got + " in turn, alone "
+                    + want, got.equals(want), true);
+            }
+        }
+    }
+
+    private static SortedOffice twoOfEach() {
+        SortedOffice x = Check.with(TEXTS[0], Check.WEEK, TEXTS[5]);
+        Check.tell(x, Check.LOG, -1, TEXTS[4]);
+        Check.tell(x, Check.OFFICE, -1, "houses 2;mood 1 0;letter 0 joy 2;letter 0 blow 1;letter 1 joy 3;law joy blow 2;");
+        Check.tell(x, Check.WEEK, -1, "give 1;give 0;");
+        Check.tell(x, Check.LOG, -1, "");
+        return x;
+    }
+
+    private static Object answer(SortedOffice x, Method m, Object[] all) throws IllegalAccessException {
+        try {
+            return m.invoke(x, all);
+        } catch (InvocationTargetException e) {
+            return e.getCause().toString();
+        }
+    }
+
+    /** Arguments of which most are there. */
+    private static Object[] near(Method m, Random random) {
+        Class<?>[] types = m.getParameterTypes();
+        Object[] all = new Object[types.length];
+        for (int i = 0; i < types.length; i++) {
+            all[i] = types[i] == boolean.class ? (Object) random.nextBoolean()
+                : (Object) (i == 0 ? random.nextInt(2) : random.nextInt(4) == 0 ? random.nextInt(12) : random.nextInt(4) - 1);
+        }
+        return all;
     }
 
     private static int[] print(SortedOffice x) {
