@@ -1,4 +1,5 @@
 import java.io.IOException;
+import java.lang.reflect.Array;
 import java.lang.reflect.Constructor;
 import java.lang.reflect.Field;
 import java.lang.reflect.Method;
@@ -6,7 +7,9 @@ import java.lang.reflect.Modifier;
 import java.nio.file.Files;
 import java.nio.file.Path;
 import java.util.Arrays;
+import java.util.Collections;
 import java.util.HashSet;
+import java.util.IdentityHashMap;
 import java.util.Set;
 import java.util.TreeSet;
 import java.util.regex.Matcher;
@@ -35,8 +38,9 @@ public final class RulesTest {
         "HashMap", "Random", "System.out", "Exception", "Object", "equals", "hashCode", "toString",
         "Exact", "->", "::", "native", "volatile", "transient", "package"};
 
-    public static void main(String[] args) throws IOException {
+    public static void main(String[] args) throws IOException, IllegalAccessException {
         face();
+        room();
         source(Files.readString(Path.of("src/main/java/SortedOffice.java")));
         Check.finish();
     }
@@ -100,6 +104,46 @@ public final class RulesTest {
             }
         }
         Check.due("rule 11: fields of " + of, fields <= 20, true);
+    }
+
+    /** Six hundred objects with all their images find room among 7.3 million fields and elements. */
+    private static void room() throws IllegalAccessException {
+        SortedOffice x = new SortedOffice();
+        for (int k = 0; k < 3; k++) {
+            x.image(k);
+        }
+        Set<Object> made = Collections.newSetFromMap(new IdentityHashMap<>());
+        int elements = elementsOf(x, made);
+        Check.due("rule 12: " + made.size() + " objects", made.size() <= 250, true);
+        Check.due("rule 12: " + elements + " fields and elements", elements <= 12000, true);
+        for (int k = 0; k < 3; k++) {
+            x.image(k);
+            x.again(k);
+        }
+        Set<Object> later = Collections.newSetFromMap(new IdentityHashMap<>());
+        elementsOf(x, later);
+        Check.due("rule 12: images are used again", later.equals(made), true);
+    }
+
+    private static int elementsOf(Object of, Set<Object> seen) throws IllegalAccessException {
+        if (of == null || !seen.add(of)) {
+            return 0;
+        }
+        int elements = 0;
+        if (of.getClass().isArray()) {
+            elements = Array.getLength(of);
+            for (int i = 0; i < Array.getLength(of) && !of.getClass().getComponentType().isPrimitive(); i++) {
+                elements += elementsOf(Array.get(of, i), seen);
+            }
+            return elements;
+        }
+        for (Field f : of.getClass().getDeclaredFields()) {
+            if (!Modifier.isStatic(f.getModifiers())) {
+                f.setAccessible(true);
+                elements += 1 + (f.getType().isPrimitive() ? 0 : elementsOf(f.get(of), seen));
+            }
+        }
+        return elements;
     }
 
     private static void library(String code) {
